@@ -36,7 +36,7 @@ public final class SchemaPascal {
 
     // A reference is its first cell and the discriminants that hold there; a row of the store is one.
     private static final int ROW = 1 + MOST_DISCRIMINANTS;
-    private static final long NO_NUMBER = Long.MIN_VALUE;
+    private static final long NO_NUMBER = 1L << 63;
 
     // The names in the order in which they get their numbers.
     private static final String KEPT_NAMES = "program const type var procedure function forward begin end if then else while do repeat until for to downto case of otherwise with array record set string nil div mod and or not in protected value ";
@@ -173,6 +173,11 @@ public final class SchemaPascal {
     private static final int VALUE = 0;
     private static final int REFERENCE = 1;
     private static final int SEALED = 2;
+
+    // Rules of the grammar that stand in one another.
+    private static final int R_BLOCK = 0;
+    private static final int R_STATEMENTS = 1;
+    private static final int R_SUM0 = 2;
 
     // Codes of faults.
     private static final int NO_WORD = 1;
@@ -350,19 +355,16 @@ public final class SchemaPascal {
         program.clear();
         words.open(used);
         used = 0;
-        ready = isRead();
-        faultCode = ready ? 0 : words.faultCode;
-        return ready ? 0 : -1 - words.faultPlace;
-    }
-
-    // The reader leaves at the first fault by an exception of its own.
-    private boolean isRead() {
+        ready = false;
+        // The reader leaves at the first fault by an exception of its own.
         try {
             reader.read();
-            return true;
+            ready = true;
         } catch (IllegalStateException e) {
-            return false;
+            ready = false;
         }
+        faultCode = ready ? 0 : words.faultCode;
+        return ready ? 0 : -1 - words.faultPlace;
     }
 
     public int fault() {
@@ -374,6 +376,7 @@ public final class SchemaPascal {
             throw new IllegalStateException();
         }
         machine.begin();
+        machine.run(0);
     }
 
     public int input(int v) throws IllegalArgumentException, UnsupportedOperationException {
@@ -623,31 +626,26 @@ public final class SchemaPascal {
         }
 
         private void skip() {
+            int note = NONE;
             for (int i = 0; i < MANY; i++) {
                 int b = byteAt(at);
-                if (b == 9 || b == 10 || b == 13 || b == 32) {
+                boolean isPair = b == '*' && byteAt(at + 1) == ')' || b == '(' && byteAt(at + 1) == '*';
+                if (note >= 0) {
+                    if (b < 0) {
+                        fail(NO_WORD, note);
+                    }
+                    boolean ends = b == '}' || b == '*' && isPair;
+                    note = ends ? NONE : note;
+                    at += ends && b == '*' ? 2 : 1;
+                } else if (b == '{' || b == '(' && isPair) {
+                    note = at;
+                    at += isPair ? 2 : 1;
+                } else if (b == 9 || b == 10 || b == 13 || b == 32) {
                     at++;
-                } else if (b == '{') {
-                    at = behindNote(at, at + 1);
-                } else if (b == '(' && byteAt(at + 1) == '*') {
-                    at = behindNote(at, at + 2);
                 } else {
                     return;
                 }
             }
-        }
-
-        private int behindNote(int note, int from) {
-            for (int i = from; i < length; i++) {
-                if (byteAt(i) == '}') {
-                    return i + 1;
-                }
-                if (byteAt(i) == '*' && byteAt(i + 1) == ')') {
-                    return i + 2;
-                }
-            }
-            fail(NO_WORD, note);
-            return length;
         }
 
         private void readName() {
@@ -736,8 +734,9 @@ public final class SchemaPascal {
         private long readDigits(int base) {
             long n = -1;
             for (int i = 0; i < MANY; i++) {
-                int digit = digitOf(byteAt(at));
-                if (digit < 0 || digit >= base) {
+                int b = byteAt(at);
+                int digit = isDigit(b) ? b - '0' : isLetter(b) ? small(b) - 'a' + 10 : base;
+                if (digit >= base) {
                     break;
                 }
                 n = (n < 0 ? 0 : n) * base + digit;
@@ -745,13 +744,6 @@ public final class SchemaPascal {
                 at++;
             }
             return n;
-        }
-
-        private static int digitOf(int b) {
-            if (isDigit(b)) {
-                return b - '0';
-            }
-            return isLetter(b) ? small(b) - 'a' + 10 : -1;
         }
 
         private void readText() {
@@ -1059,22 +1051,22 @@ public final class SchemaPascal {
             return sum;
         }
 
-        private long sumAt(int sum, long[] row, int at) {
-            return workOut(sums, sum + 1, sum + 1 + sums.get(sum), row, at);
-        }
-
-        /** What a KNOWN sum comes to, with the discriminants in the row from there on; or NO_NUMBER. */
-        long workOut(Row from, int begin, int behind, long[] row, int at) {
+        /** The number, or what a KNOWN sum comes to with the discriminants in the row from there on, or NO_NUMBER. */
+        long workOut(int number, int sum, long[] row, int at) {
+            if (sum == 0) {
+                return number;
+            }
             int n = 0;
-            int i = begin;
+            int i = sum + 1;
+            int behind = i + sums.get(sum);
             for (int turn = 0; turn < MANY && i < behind; turn++) {
-                int op = from.get(i);
+                int op = sums.get(i);
                 long right = n > 0 ? operands[n - 1] : 0;
                 if (op == CONST || op == DISCRIMINANT) {
                     if (n >= operands.length) {
                         return NO_NUMBER;
                     }
-                    operands[n] = op == CONST ? from.get(i + 1) : inRow(row, at + from.get(i + 1));
+                    operands[n] = op == CONST ? sums.get(i + 1) : inRow(row, at + sums.get(i + 1));
                     n++;
                     i += 2;
                 } else if (op >= ADD) {
@@ -1088,7 +1080,7 @@ public final class SchemaPascal {
                     if (n < 1) {
                         return NO_NUMBER;
                     }
-                    operands[n - 1] = ofOne(op, right, from.get(i + 1));
+                    operands[n - 1] = ofOne(op, right, sums.get(i + 1));
                     i += op == CHR ? 2 : op == SUCC || op == PRED ? 3 : 1;
                 }
                 if (operands[n - 1] == NO_NUMBER) {
@@ -1115,9 +1107,9 @@ public final class SchemaPascal {
 
         static long ofTwo(int op, long a, long b) {
             switch (op) {
-                case ADD: return upToMaxint(a + b);
-                case SUBTRACT: return upToMaxint(a - b);
-                case MULTIPLY: return upToMaxint(a * b);
+                case ADD: return a + b > MAXINT || a + b < -MAXINT ? NO_NUMBER : a + b;
+                case SUBTRACT: return a - b > MAXINT || a - b < -MAXINT ? NO_NUMBER : a - b;
+                case MULTIPLY: return a * b > MAXINT || a * b < -MAXINT ? NO_NUMBER : a * b;
                 case DIVIDE: return b == 0 ? NO_NUMBER : a / b;
                 case MODULO: return b <= 0 ? NO_NUMBER : Math.floorMod(a, b);
                 case AND: return a & b;
@@ -1132,10 +1124,6 @@ public final class SchemaPascal {
             }
         }
 
-        static long upToMaxint(long n) {
-            return n >= -MAXINT && n <= MAXINT ? n : NO_NUMBER;
-        }
-
         static long ofTwoSets(int op, long a, long b) {
             switch (op) {
                 case ALL_OF: return a | b;
@@ -1147,24 +1135,16 @@ public final class SchemaPascal {
             }
         }
 
-        long lowOf(Type t, long[] row, int at) {
-            return t.lowSum == 0 ? t.low : sumAt(t.lowSum, row, at);
-        }
-
-        long highOf(Type t, long[] row, int at) {
-            return t.highSum == 0 ? t.high : sumAt(t.highSum, row, at);
-        }
-
         /** Whether a variable of this type (an ordinal, a set, a pointer) can have the number. */
         boolean canHave(Type t, long n, long[] row, int at) {
             if (t.isOrdinal()) {
-                return n >= lowOf(t, row, at) && n <= highOf(t, row, at);
+                return n >= workOut(t.low, t.lowSum, row, at) && n <= workOut(t.high, t.highSum, row, at);
             }
             if (t.kind != T_SET || t.of == null) {
                 return true;
             }
-            long low = lowOf(t.of, row, at);
-            long high = highOf(t.of, row, at);
+            long low = workOut(t.of.low, t.of.lowSum, row, at);
+            long high = workOut(t.of.high, t.of.highSum, row, at);
             if (low < 0 || low > high || high > MOST_MEMBER) {
                 return false;
             }
@@ -1179,8 +1159,9 @@ public final class SchemaPascal {
                 return false;
             }
             for (int i = 0; i < n && i < t.given.length && i < t.givenSums.length; i++) {
-                long v = t.givenSums[i] == 0 ? t.given[i] : sumAt(t.givenSums[i], row, at);
-                if (v == NO_NUMBER || !canHave(t.schema.names.get(i).type, v, row, at)) {
+                long v = workOut(t.given[i], t.givenSums[i], row, at);
+                Type d = t.schema.names.get(i).type;
+                if (v == NO_NUMBER || v < d.low || v > d.high) {
                     return false;
                 }
                 to[toAt + i] = v;
@@ -1207,8 +1188,8 @@ public final class SchemaPascal {
             }
             switch (t.kind) {
                 case T_SPAN: return spanned(t, row, at) >= 0 ? 1 : -1;
-                case T_SET: return t.of != null && spanned(t.of, row, at) >= 0 && lowOf(t.of, row, at) >= 0 && highOf(t.of, row, at) <= MOST_MEMBER ? 1 : -1;
-                case T_STRING: return cellsOfString(highOf(t, row, at));
+                case T_SET: return t.of != null && spanned(t.of, row, at) >= 0 && workOut(t.of.low, t.of.lowSum, row, at) >= 0 && workOut(t.of.high, t.of.highSum, row, at) <= MOST_MEMBER ? 1 : -1;
+                case T_STRING: return cellsOfString(workOut(t.high, t.highSum, row, at));
                 case T_ARRAY: return cellsOfArray(t, row, at, nested);
                 case T_RECORD: return cellsOfRecord(t, row, at, nested);
                 case T_GIVEN:
@@ -1224,8 +1205,8 @@ public final class SchemaPascal {
 
         /** How many numbers an ordinal has, or -1 if it may not be so. */
         private long spanned(Type t, long[] row, int at) {
-            long low = lowOf(t, row, at);
-            long high = highOf(t, row, at);
+            long low = workOut(t.low, t.lowSum, row, at);
+            long high = workOut(t.high, t.highSum, row, at);
             return low == NO_NUMBER || high == NO_NUMBER || low > high ? -1 : high - low + 1;
         }
 
@@ -1302,11 +1283,6 @@ public final class SchemaPascal {
             p.last = (int) behind;
             return behind < MAXINT;
         }
-
-        /** How many cells what a reference stands for has: its discriminants are those of a schema already. */
-        int cellsBehind(Type t, long[] row, int at) {
-            return cellsOf(t.body(), row, at, 0);
-        }
     }
 
     /** Reads a text whole, by its grammar, from the left, and leaves at the first fault. */
@@ -1374,7 +1350,7 @@ public final class SchemaPascal {
             routine = program.newRoutine(place, 0, false);
             expect(W_NAME);
             expect(W_SEMICOLON);
-            readBlock(0);
+            readRule(R_BLOCK, 0);
             expect(W_DOT);
             if (words.kind != W_END) {
                 fail(MISPLACED);
@@ -1519,6 +1495,16 @@ public final class SchemaPascal {
             return s.type;
         }
 
+        /** What the grammar calls so: a block, statements or a sum, standing so deep. */
+        private Item readRule(int rule, int depth) {
+            switch (rule) {
+                case R_BLOCK: readBlock(depth); break;
+                case R_STATEMENTS: readStatements(depth); break;
+                default: return readSum0(depth);
+            }
+            return new Item(program.none, VALUE, words.place);
+        }
+
         // ---- blocks
 
         private void readBlock(int depth) {
@@ -1543,7 +1529,7 @@ public final class SchemaPascal {
                 addResult();
             }
             words.next();
-            readStatements(depth);
+            readRule(R_STATEMENTS, depth);
             expect(W_FINISH);
             emit(LEAVE);
         }
@@ -1762,7 +1748,12 @@ public final class SchemaPascal {
                 r.isWaiting = false;
                 routine.waitingRoutines--;
             } else {
-                r = readHeading(isFunction);
+                r = tellRoutine(isFunction);
+                if (words.kind == W_OPEN) {
+                    readParams(r);
+                }
+                r.params = r.variables.size();
+                readResult(r);
                 expect(W_SEMICOLON);
                 r.isWaiting = words.kind == W_FORWARD;
             }
@@ -1775,26 +1766,24 @@ public final class SchemaPascal {
             expect(W_SEMICOLON);
         }
 
-        private Routine readHeading(boolean isFunction) {
+        private Routine tellRoutine(boolean isFunction) {
             Routine r = program.newRoutine(words.place, level, isFunction);
             Symbol s = new Symbol(words.number, S_ROUTINE);
             s.routine = r;
             s.type = program.none;
             tell(s);
             words.next();
-            if (words.kind == W_OPEN) {
-                readParams(r);
-            }
-            r.params = r.variables.size();
-            if (isFunction) {
+            return r;
+        }
+
+        private void readResult(Routine r) {
+            if (r.isFunction) {
                 expect(W_COLON);
                 r.result = readTypeName();
                 if (!r.result.isScalar() && r.result.kind != T_STRING) {
                     fail(MISFIT);
                 }
-                s.type = r.result;
             }
-            return r;
         }
 
         private void readParams(Routine r) {
@@ -2259,14 +2248,16 @@ public final class SchemaPascal {
 
         private void workOut(Item x, int begin) {
             x.number = 0;
+            x.sum = program.keepSum(begin);
             if (x.hangs) {
-                x.sum = program.keepSum(begin);
                 return;
             }
-            long n = program.workOut(code, begin, code.size(), program.given, 0);
+            long n = program.workOut(0, x.sum, program.given, 0);
             if (n == NO_NUMBER) {
                 fail(IMPOSSIBLE);
             }
+            program.sums.cut(x.sum);
+            x.sum = 0;
             x.number = (int) n;
         }
 
@@ -2957,7 +2948,7 @@ public final class SchemaPascal {
         private Item readBrackets(int depth) {
             int inside = deeper(depth);
             words.next();
-            Item x = readSum0(inside);
+            Item x = readRule(R_SUM0, inside);
             load(x);
             if (x.form == REFERENCE) {
                 x.form = SEALED;
@@ -3459,7 +3450,6 @@ public final class SchemaPascal {
             if (makeRoom(r)) {
                 at = r.entry;
             }
-            run(0);
         }
 
         /** Does so many steps more: 0 it goes on, 1 it ended, 2 it ended with an error. */
@@ -3467,7 +3457,22 @@ public final class SchemaPascal {
             budget = more;
             pauses = false;
             for (long i = 0; i < FAR && state == GOING && !pauses; i++) {
-                execute(code.get(at));
+                int op = code.get(at);
+                if (op == CALL) {
+                    call();
+                } else if (op < VARIABLE) {
+                    control(op);
+                } else if (op < STORE) {
+                    refer(op);
+                } else if (op < CONST) {
+                    change(op);
+                } else if (op < TEXT) {
+                    number(op);
+                } else if (op < ADD) {
+                    text(op);
+                } else {
+                    join(op);
+                }
             }
             return state == GOING ? 0 : state == ENDED ? 1 : 2;
         }
@@ -3513,17 +3518,13 @@ public final class SchemaPascal {
             return k >= 0 && k < r.variables.size() ? r.variables.get(k).type : program.none;
         }
 
+        /** What a row stands for has the discriminants of a schema already, so that its body is asked. */
         int cellsOfVariable(int i, int k) {
-            return cellsOfRow(typeOfVariable(i, k), rowOfVariable(i, k));
+            return program.cellsOf(typeOfVariable(i, k).body(), store.rows, rowOfVariable(i, k) * ROW + 1, 0);
         }
 
         int cellsOfThing(int n) {
-            return cellsOfRow(program.typeAt(store.typeOfThing(n)), store.rowOfThing(n));
-        }
-
-        private int cellsOfRow(Type t, int row) {
-            int cells = program.cellsBehind(t, store.rows, row * ROW + 1);
-            return cells < 0 ? 0 : cells;
+            return program.cellsOf(program.typeAt(store.typeOfThing(n)).body(), store.rows, store.rowOfThing(n) * ROW + 1, 0);
         }
 
         // ---- operands
@@ -3572,22 +3573,6 @@ public final class SchemaPascal {
             return code.get(at + i);
         }
 
-        private void execute(int op) {
-            if (op < VARIABLE) {
-                control(op);
-            } else if (op < STORE) {
-                refer(op);
-            } else if (op < CONST) {
-                change(op);
-            } else if (op < TEXT) {
-                number(op);
-            } else if (op < ADD) {
-                text(op);
-            } else {
-                join(op);
-            }
-        }
-
         private void control(int op) {
             switch (op) {
                 case STEP: beginStep(); break;
@@ -3601,7 +3586,6 @@ public final class SchemaPascal {
                     break;
                 case FOR_FIRST: beginFor(); break;
                 case FOR_NEXT: goOnFor(); break;
-                case CALL: call(); break;
                 case LEAVE: leave(); break;
                 case MAKE: makeKnown(); break;
                 case FIRST_NAME:
@@ -3734,7 +3718,7 @@ public final class SchemaPascal {
             if (!makeRoom(r)) {
                 return;
             }
-            int firstOperand = top - operandsOf(r);
+            int firstOperand = top - operandsOfAll(r);
             int firstByte = textTop - bytesOf(r, firstOperand);
             int operand = firstOperand;
             int from = firstByte;
@@ -3766,7 +3750,7 @@ public final class SchemaPascal {
             return param.mode == BY_VALUE && (param.type.isScalar() || param.type.kind == T_STRING) ? 1 : ROW;
         }
 
-        private static int operandsOf(Routine r) {
+        private static int operandsOfAll(Routine r) {
             int n = 0;
             for (int i = 0; i < r.params; i++) {
                 n += operandsOf(r.variables.get(i));
@@ -3820,7 +3804,7 @@ public final class SchemaPascal {
 
         private boolean giveCopy(Type t, int row, int operand, int place, int room) {
             boolean isFixed = t.kind != T_SCHEMA;
-            int cells = isFixed ? t.cells : program.cellsBehind(t, stack, operand + 1);
+            int cells = isFixed ? t.cells : program.cellsOf(t.body(), stack, operand + 1, 0);
             if (t.kind == T_GIVEN) {
                 program.giveValues(t, given, 0, given, 0);
             }
@@ -4029,8 +4013,8 @@ public final class SchemaPascal {
             Type t = program.typeAt(behind(1));
             long index = pop();
             int from = reference(0);
-            long low = t.index == null ? 0 : program.lowOf(t.index, stack, from + 1);
-            if (t.index == null || t.of == null || index < low || index > program.highOf(t.index, stack, from + 1)) {
+            long low = t.index == null ? 0 : program.workOut(t.index.low, t.index.lowSum, stack, from + 1);
+            if (t.index == null || t.of == null || index < low || index > program.workOut(t.index.high, t.index.highSum, stack, from + 1)) {
                 fail(E_OUTSIDE, behind(2));
                 return;
             }
@@ -4073,7 +4057,7 @@ public final class SchemaPascal {
         /** The length of a string, or -1 if it is UNDEFINED. */
         private int lengthAt(int cell, Type t, long[] row, int rowAt) {
             long length = store.numberAt(cell);
-            if (store.sortAt(cell) != LENGTH_SORT || length < 0 || length > program.highOf(t, row, rowAt)) {
+            if (store.sortAt(cell) != LENGTH_SORT || length < 0 || length > program.workOut(t.high, t.highSum, row, rowAt)) {
                 return -1;
             }
             for (int i = 1; i <= length; i++) {
@@ -4166,7 +4150,8 @@ public final class SchemaPascal {
         private void assignText() {
             int from = reference(1);
             int length = (int) peek();
-            long capacity = program.highOf(program.typeAt(behind(1)), stack, from + 1);
+            Type t = program.typeAt(behind(1));
+            long capacity = program.workOut(t.high, t.highSum, stack, from + 1);
             if (length > capacity) {
                 fail(E_OUTSIDE, behind(2));
                 return;
@@ -4217,7 +4202,7 @@ public final class SchemaPascal {
                     return;
                 }
             }
-            store.copy((int) stack[from], (int) stack[to], program.cellsBehind(t, stack, to + 1));
+            store.copy((int) stack[from], (int) stack[to], program.cellsOf(t.body(), stack, to + 1, 0));
             top = to;
             at += 3;
         }
@@ -4349,7 +4334,7 @@ public final class SchemaPascal {
                     put(pop() & 1, 0, 0);
                     break;
                 case SQR:
-                    put(Program.upToMaxint(peek() * pop()), 1, E_BEYOND);
+                    put(Program.ofTwo(MULTIPLY, peek(), pop()), 1, E_BEYOND);
                     break;
                 case CARD:
                     put(Long.bitCount(pop()), 0, 0);
