@@ -988,6 +988,7 @@ public final class SchemaPascal {
             nil = newType(T_NIL);
             emptySet = newType(T_SET);
             firstTypes = types.size();
+            noField.type = none;
             sums.add(0);
         }
 
@@ -1179,7 +1180,7 @@ public final class SchemaPascal {
         }
 
         /** How many cells a part of this type has, or -1 if the type may not be so. */
-        int cellsOf(Type t, long[] row, int at, int nested) {
+        private int cellsOf(Type t, long[] row, int at, int nested) {
             if (!t.hangs) {
                 return t.isUnsound ? -1 : t.cells;
             }
@@ -1223,7 +1224,7 @@ public final class SchemaPascal {
         }
 
         /** Lays the record out for these discriminants, if it is not so already. */
-        int cellsOfRecord(Type t, long[] row, int at, int nested) {
+        private int cellsOfRecord(Type t, long[] row, int at, int nested) {
             if (t.parts == null || t.hangs && isLaidOut(t, row, at)) {
                 return t.cells;
             }
@@ -1833,7 +1834,7 @@ public final class SchemaPascal {
             r.entry = code.size();
             routine = r;
             level++;
-            for (int i = 0; i < r.params; i++) {
+            for (int i = 0; i < r.params && i < r.variables.size(); i++) {
                 tell(r.variables.get(i));
             }
             readBlock(depth);
@@ -1900,7 +1901,7 @@ public final class SchemaPascal {
             t.pieces = schema.pieces + 1;
             int begin = code.size();
             int n = program.discriminantsOf(t);
-            for (int i = 0; i < n; i++) {
+            for (int i = 0; i < n && i < MOST_DISCRIMINANTS; i++) {
                 words.next();
                 readGivenValue(t, i, depth, isWhole);
                 checkMore(i < n - 1);
@@ -2583,7 +2584,7 @@ public final class SchemaPascal {
                     fail(MISFIT);
                 }
                 int inside = deeper(depth);
-                for (int i = 0; i < r.params; i++) {
+                for (int i = 0; i < r.params && i < r.variables.size(); i++) {
                     words.next();
                     readParam(r.variables.get(i), inside);
                     checkMore(i < r.params - 1);
@@ -3722,7 +3723,7 @@ public final class SchemaPascal {
             int firstByte = textTop - bytesOf(r, firstOperand);
             int operand = firstOperand;
             int from = firstByte;
-            for (int i = 0; i < r.params; i++) {
+            for (int i = 0; i < r.params && i < r.variables.size(); i++) {
                 Symbol p = r.variables.get(i);
                 if (!giveParam(p, operand, from, place, r.place)) {
                     return;
@@ -3752,7 +3753,7 @@ public final class SchemaPascal {
 
         private static int operandsOfAll(Routine r) {
             int n = 0;
-            for (int i = 0; i < r.params; i++) {
+            for (int i = 0; i < r.params && i < r.variables.size(); i++) {
                 n += operandsOf(r.variables.get(i));
             }
             return n;
@@ -3761,7 +3762,7 @@ public final class SchemaPascal {
         private int bytesOf(Routine r, int firstOperand) {
             int bytes = 0;
             int operand = firstOperand;
-            for (int i = 0; i < r.params; i++) {
+            for (int i = 0; i < r.params && i < r.variables.size(); i++) {
                 Symbol p = r.variables.get(i);
                 bytes += isText(p) ? (int) operandAt(operand) : 0;
                 operand += operandsOf(p);
@@ -3856,7 +3857,7 @@ public final class SchemaPascal {
         private void makeGiven() {
             Type t = program.typeAt(behind(1));
             int place = routineHere().place;
-            int cells = cellsGiven(t.schema, place);
+            int cells = cellsGiven(t.schema == null ? program.none : t.schema, place);
             if (state != GOING) {
                 return;
             }
@@ -3875,7 +3876,7 @@ public final class SchemaPascal {
                     fail(E_OUTSIDE, place);
                 }
             }
-            int cells = schema == null || schema.of == null ? -1 : program.cellsOf(schema.of, given, 0, 0);
+            int cells = schema.of == null ? -1 : program.cellsOf(schema.of, given, 0, 0);
             if (cells < 0) {
                 fail(E_OUTSIDE, place);
             }
@@ -3973,7 +3974,7 @@ public final class SchemaPascal {
         private void referToField() {
             Symbol f = program.fieldAt(behind(1));
             int from = reference(0);
-            if (f.part == null || f.type == null) {
+            if (f.part == null) {
                 finish();
                 return;
             }
@@ -3996,8 +3997,9 @@ public final class SchemaPascal {
             }
             for (int i = n - 1; i >= 0; i--) {
                 Part outer = chain[i].outer;
-                int cell = record + outer.tag.offset;
-                if (!holds(cell, outer.tag.type, stack, discriminants)) {
+                Symbol tag = outer.tag == null ? program.noField : outer.tag;
+                int cell = record + tag.offset;
+                if (!holds(cell, tag.type, stack, discriminants)) {
                     fail(E_UNDEFINED, place);
                     return false;
                 }
@@ -4173,7 +4175,7 @@ public final class SchemaPascal {
         private void assignTag() {
             Symbol tag = program.fieldAt(behind(1));
             Part part = tag.part;
-            if (part == null || tag.type == null) {
+            if (part == null) {
                 finish();
                 return;
             }
