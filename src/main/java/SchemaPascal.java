@@ -1230,10 +1230,29 @@ public final class SchemaPascal {
             }
             t.isLaidOut = false;
             for (int i = 0; i < t.parts.size(); i++) {
-                if (!isLaid(t.parts.get(i), row, at, nested)) {
-                    return -1;
+                Part p = t.parts.get(i);
+                long behind = p.outer == null ? 0 : p.outer.behind;
+                for (int j = 0; j < p.fields.size(); j++) {
+                    Symbol f = p.fields.get(j);
+                    int cells = cellsOf(f.type, row, at, nested + 1);
+                    if (cells < 0 || behind > MAXINT / 2) {
+                        return -1;
+                    }
+                    f.offset = (int) behind;
+                    behind += cells;
                 }
+                if (p.tag != null) {
+                    p.tag.offset = (int) behind;
+                    behind++;
+                }
+                p.behind = (int) behind;
+                p.last = (int) behind;
             }
+            return cellsOfParts(t, row, at);
+        }
+
+        /** How many cells a record has whose parts are laid out, each behind the one in which it stands. */
+        private static int cellsOfParts(Type t, long[] row, int at) {
             int cells = 0;
             for (int i = t.parts.size() - 1; i >= 0; i--) {
                 Part p = t.parts.get(i);
@@ -1263,26 +1282,6 @@ public final class SchemaPascal {
                 }
             }
             return true;
-        }
-
-        private boolean isLaid(Part p, long[] row, int at, int nested) {
-            long behind = p.outer == null ? 0 : p.outer.behind;
-            for (int i = 0; i < p.fields.size(); i++) {
-                Symbol f = p.fields.get(i);
-                int cells = cellsOf(f.type, row, at, nested + 1);
-                if (cells < 0) {
-                    return false;
-                }
-                f.offset = (int) behind;
-                behind += cells;
-            }
-            if (p.tag != null) {
-                p.tag.offset = (int) behind;
-                behind++;
-            }
-            p.behind = (int) behind;
-            p.last = (int) behind;
-            return behind < MAXINT;
         }
     }
 
