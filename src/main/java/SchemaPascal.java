@@ -175,9 +175,10 @@ public final class SchemaPascal {
     private static final int SEALED = 2;
 
     // Rules of the grammar that stand in one another.
-    private static final int R_BLOCK = 0;
-    private static final int R_STATEMENTS = 1;
-    private static final int R_SUM0 = 2;
+    private static final int R_TEXT = 0;
+    private static final int R_BLOCK = 1;
+    private static final int R_STATEMENTS = 2;
+    private static final int R_SUM0 = 3;
 
     // Codes of faults.
     private static final int NO_WORD = 1;
@@ -357,8 +358,9 @@ public final class SchemaPascal {
         used = 0;
         ready = false;
         // The reader leaves at the first fault by an exception of its own.
+        reader.open();
         try {
-            reader.read();
+            reader.readRule(R_TEXT, 0);
             ready = true;
         } catch (IllegalStateException e) {
             ready = false;
@@ -1334,7 +1336,8 @@ public final class SchemaPascal {
             tops[name] = s;
         }
 
-        void read() {
+        /** Forgets the text before. */
+        void open() {
             leaveTo(0);
             withs.clear();
             pointers.clear();
@@ -1344,6 +1347,9 @@ public final class SchemaPascal {
             inTypes = false;
             withFields = 0;
             level = 0;
+        }
+
+        private void readWhole() {
             words.next();
             int place = words.place;
             expect(W_PROGRAM);
@@ -1495,9 +1501,10 @@ public final class SchemaPascal {
             return s.type;
         }
 
-        /** What the grammar calls so: a block, statements or a sum, standing so deep. */
+        /** What the grammar calls so: a text, a block, statements or a sum, standing so deep. */
         private Item readRule(int rule, int depth) {
             switch (rule) {
+                case R_TEXT: readWhole(); break;
                 case R_BLOCK: readBlock(depth); break;
                 case R_STATEMENTS: readStatements(depth); break;
                 default: return readSum0(depth);
@@ -3458,20 +3465,29 @@ public final class SchemaPascal {
             pauses = false;
             for (long i = 0; i < FAR && state == GOING && !pauses; i++) {
                 int op = code.get(at);
-                if (op == CALL) {
-                    call();
-                } else if (op < VARIABLE) {
-                    control(op);
-                } else if (op < STORE) {
-                    refer(op);
-                } else if (op < CONST) {
-                    change(op);
-                } else if (op < TEXT) {
-                    number(op);
-                } else if (op < ADD) {
-                    text(op);
-                } else {
-                    join(op);
+                switch (op) {
+                    case CALL: call(); break;
+                    case LEAVE: leave(); break;
+                    case MAKE_GIVEN: makeGiven(); break;
+                    case FIELD: referToField(); break;
+                    case FOLLOW: follow(); break;
+                    case NEW: makeThing(); break;
+                    case DISPOSE: dispose(); break;
+                    default:
+                        if (op < VARIABLE) {
+                            control(op);
+                        } else if (op < STORE) {
+                            refer(op);
+                        } else if (op < CONST) {
+                            change(op);
+                        } else if (op < TEXT) {
+                            number(op);
+                        } else if (op < ADD) {
+                            text(op);
+                        } else {
+                            join(op);
+                        }
+                        break;
                 }
             }
             return state == GOING ? 0 : state == ENDED ? 1 : 2;
@@ -3586,13 +3602,11 @@ public final class SchemaPascal {
                     break;
                 case FOR_FIRST: beginFor(); break;
                 case FOR_NEXT: goOnFor(); break;
-                case LEAVE: leave(); break;
                 case MAKE: makeKnown(); break;
                 case FIRST_NAME:
                     push(behind(1));
                     at += 2;
                     break;
-                case MAKE_GIVEN: makeGiven(); break;
                 case NEXT_NAME: nextName(); break;
                 case GIVE: giveNumber(); break;
                 case GIVE_TEXT: giveText(); break;
@@ -3782,40 +3796,44 @@ public final class SchemaPascal {
                 }
                 return true;
             }
-            if (!t.isScalar() && t.kind != T_STRING) {
-                return giveCopy(t, row, operand, place, room);
-            }
-            if (!make(row, t, t.cells, given, 0, room)) {
-                return false;
-            }
-            int cell = (int) store.inRow(row, 0);
-            int length = (int) operandAt(operand);
-            if (t.kind == T_STRING ? length > t.high : !program.canHave(t, operandAt(operand), given, 0)) {
-                fail(E_OUTSIDE, place);
-                return false;
-            }
-            if (t.kind == T_STRING) {
-                putText(cell, t.high, from, length);
-            } else {
-                store.put(cell, operandAt(operand), t.sort());
-            }
-            return true;
-        }
-
-        private boolean giveCopy(Type t, int row, int operand, int place, int room) {
-            boolean isFixed = t.kind != T_SCHEMA;
-            int cells = isFixed ? t.cells : program.cellsOf(t.body(), stack, operand + 1, 0);
+            boolean isSchema = t.kind == T_SCHEMA;
             if (t.kind == T_GIVEN) {
                 program.giveValues(t, given, 0, given, 0);
             }
-            if (!make(row, t, cells, isFixed ? given : stack, isFixed ? 0 : operand + 1, room)) {
+            int cells = isSchema ? program.cellsOf(t.body(), stack, operand + 1, 0) : t.cells;
+            if (!make(row, t, cells, isSchema ? stack : given, isSchema ? operand + 1 : 0, room)) {
                 return false;
+            }
+            int cell = (int) store.inRow(row, 0);
+            if (t.isScalar()) {
+                return giveScalar(t, cell, operandAt(operand), place);
+            }
+            if (t.kind == T_STRING) {
+                return giveString(t, cell, from, (int) operandAt(operand), place);
             }
             if (t.kind == T_GIVEN && differs(t, operand)) {
                 fail(E_DIFFER, place);
                 return false;
             }
-            store.copy((int) operandAt(operand), (int) store.inRow(row, 0), cells);
+            store.copy((int) operandAt(operand), cell, cells);
+            return true;
+        }
+
+        private boolean giveScalar(Type t, int cell, long number, int place) {
+            if (!program.canHave(t, number, given, 0)) {
+                fail(E_OUTSIDE, place);
+                return false;
+            }
+            store.put(cell, number, t.sort());
+            return true;
+        }
+
+        private boolean giveString(Type t, int cell, int from, int length, int place) {
+            if (length > t.high) {
+                fail(E_OUTSIDE, place);
+                return false;
+            }
+            putText(cell, t.high, from, length);
             return true;
         }
 
@@ -3945,9 +3963,7 @@ public final class SchemaPascal {
                     pushRow(rowHere(behind(1)));
                     at += 2;
                     break;
-                case FIELD: referToField(); break;
                 case INDEX: referToElement(); break;
-                case FOLLOW: follow(); break;
                 case OF_SCHEMA:
                     int from = reference(0);
                     long number = operandAt(from + 1 + behind(1));
@@ -4123,8 +4139,6 @@ public final class SchemaPascal {
                 case STORE_TAG: assignTag(); break;
                 case COPY: assignCopy(); break;
                 case READ: read(); break;
-                case NEW: makeThing(); break;
-                case DISPOSE: dispose(); break;
                 case WRITE: write((int) pop()); break;
                 case WRITE_TEXT:
                     writeText((int) pop());
