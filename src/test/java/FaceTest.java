@@ -123,6 +123,15 @@ public final class FaceTest {
         b.due("q is made", y.value(0, 0, 0), 0);
         b.thrown("x is not", IndexOutOfBoundsException.class, () -> y.variable(0, 1, 0));
         b.thrown("has ended", IllegalStateException.class, () -> y.step(1));
+        // A with is no step: what goes wrong in it before the first step does so in start.
+        String text = "program a; type r = record x: integer end; var p: ^r; begin with p^ do x := 1 end.";
+        SchemaPascal z = b.compiled(text);
+        z.start();
+        b.due("ended by its with", z.told(0), 0);
+        b.due("error", z.told(2), 1);
+        b.due("place", z.told(3), text.indexOf("^ do"));
+        b.due("steps", z.told(1), 0);
+        b.due("no statement", z.activation(0, 3), SchemaPascal.NONE);
     }
 
     private static void input(Bench b) {
