@@ -2957,6 +2957,7 @@ public final class SchemaPascal {
             words.next();
             Item x = readRule(R_SUM0, inside);
             load(x);
+            x.isText = false; // a text in brackets is not alone, so it is no constant
             if (x.form == REFERENCE) {
                 x.form = SEALED;
             }

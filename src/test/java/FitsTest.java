@@ -264,8 +264,9 @@ public final class FitsTest {
     }
 
     private static void knownOnes(Bench b) {
-        b.good(HEAD + " const c1 = 'ab'; c2 = c1; c3 = ('ab'); c4 = -5 + 3 * 2 div 4 mod 3; c5 = not (1 < 2) and ('a' <> 'b') or (red <= green); c6 = ord('a'); c7 = chr(65); c8 = succ(red); c9 = pred(5); begin end.");
+        b.good(HEAD + " const c1 = 'ab'; c2 = c1; c3 = ('a'); c4 = -5 + 3 * 2 div 4 mod 3; c5 = not (1 < 2) and ('a' <> 'b') or (red <= green); c6 = ord('a'); c7 = chr(65); c8 = succ(red); c9 = pred(5); begin end.");
         b.writes("program a; const c = 'ab'; d = c; e = 'x'; f = -7 div 2; begin write(c, d, e, f) end.", "ababx-3");
+        textsInBrackets(b);
         b.fault(5, HEAD + " const x = i`; begin end.");
         b.fault(5, HEAD + " const x = i + 1`; begin end.");
         b.fault(5, HEAD + " const x = abs(1)`; begin end.");
@@ -297,6 +298,28 @@ public final class FitsTest {
         b.fault(5, HEAD + " type x(n: integer) = record case m: integer of n`: () end; begin end.");
         b.fault(5, HEAD + " type x(n: integer) = array [1..n + i`] of char; begin end.");
         b.good(HEAD + " type x(n: integer; m: char; o: boolean) = record u: array [ord(m)..n * 2] of char; v: string(n mod 5 + 1); w: array ['a'..m] of set of 0..n; y: array [false..o] of vec(n - 1) end; begin end.");
+    }
+
+    /** A text that is no char is a constant when it stands alone, not in brackets. */
+    private static void textsInBrackets(Bench b) {
+        String text = HEAD + " const many = 'ab'; one = 'a';";
+        b.good(text + " e1 = many; e2 = (one); e3 = (('b')); var x: string(3) value many; x2: string(3) value ('a'); x3: char value (one);"
+                + " begin case c of ('a'), ('b')..('c'): end end.");
+        b.writes("program a; const m = 'ab'; var x: string(4); begin x := ('cd'); write((m), ('cd'), x, (('ef'))) end.", "abcdcdef");
+        b.fault(5, text + " x = ('ab')`; begin end.");
+        b.fault(5, text + " x = (('ab'))`; begin end.");
+        b.fault(5, text + " x = (many)`; begin end.");
+        b.fault(5, text + " x = ('''''')`; begin end.");
+        b.fault(2, text + " x = ('ab'`; begin end.");
+        b.fault(5, text + " var x: string(3) value ('ab')`; begin end.");
+        b.fault(5, text + " var x: string(1) value (many)`; begin end.");
+        b.fault(5, text + " var x: integer value (many)`; begin end.");
+        b.fault(5, text + " type x = record case k: char of ('ab')`: () end; begin end.");
+        b.fault(5, text + " type x = record case k: char of 'a'..(many)`: () end; begin end.");
+        b.fault(5, text + " begin case c of (many)`: end end.");
+        b.fault(5, text + " begin case c of ('ab')`..'a': end end.");
+        b.fault(5, text + " begin case c of 'a'..('ab')`: end end.");
+        b.fault(5, text + " begin case i of 1, ('ab')`: end end.");
     }
 
     private static void guarded(Bench b) {
