@@ -180,17 +180,23 @@ public final class SchemaPascal {
     private static final int R_STATEMENTS = 2;
     private static final int R_SUM0 = 3;
 
-    // Codes of faults.
+    // Kinds of faults, in the order in which they count at one word, and the code of each.
     private static final int NO_WORD = 1;
-    private static final int MISPLACED = 2;
-    private static final int UNKNOWN = 3;
-    private static final int TOLD_TWICE = 4;
-    private static final int MISFIT = 5;
-    private static final int GUARDED = 6;
-    private static final int IMPOSSIBLE = 7;
-    private static final int TOO_MUCH = 8;
-    private static final int BAD_CASE = 9;
-    private static final int NO_BLOCK = 10;
+    private static final int TOO_MUCH = 2;
+    private static final int NOT_KNOWN = 3;        // or no ordinal
+    private static final int UNWORKABLE = 4;
+    private static final int TOLD_TWICE = 5;
+    private static final int MISFIT = 6;
+    private static final int BAD_CASE = 7;
+    private static final int GUARDED = 8;
+    private static final int IMPOSSIBLE = 9;
+    private static final int TOO_SHARED = 10;
+    private static final int TOLD_BY_TYPE = 11;
+    private static final int MISCOUNTED = 12;
+    private static final int MISPLACED = 13;
+    private static final int UNKNOWN = 14;
+    private static final int NO_BLOCK = 15;
+    private static final int[] CODES = {0, 1, 8, 5, 7, 4, 5, 9, 6, 7, 8, 4, 5, 2, 3, 10};
 
     // Numbers of errors.
     private static final int E_UNDEFINED = 1;
@@ -552,6 +558,7 @@ public final class SchemaPascal {
         private int number;
         private int textAt;
         private int textLength;
+        private int noted;       // the kind of the first fault at this word, as far as it was looked at; 0 if none
         private int faultCode;
         private int faultPlace;
 
@@ -584,17 +591,28 @@ public final class SchemaPascal {
             names = firstNames;
             length = bytes;
             at = 0;
+            noted = 0;
             faultCode = 0;
             faultPlace = 0;
         }
 
-        void fail(int code, int where) {
-            faultCode = code;
+        /** A fault at this word, where another one may come that counts before it. */
+        void note(int kind) {
+            if (noted == 0 || kind < noted) {
+                noted = kind;
+            }
+        }
+
+        void fail(int kind, int where) {
+            faultCode = kind >= 0 && kind < CODES.length ? CODES[kind] : 0;
             faultPlace = where;
             throw new IllegalStateException();
         }
 
         void next() {
+            if (noted != 0) {
+                fail(noted, place);
+            }
             skip();
             place = at;
             int b = byteAt(at);
@@ -1363,8 +1381,10 @@ public final class SchemaPascal {
             }
         }
 
-        private void fail(int code) {
-            words.fail(code, words.place);
+        /** Of all that was noted at this word the first one counts. */
+        private void fail(int kind) {
+            words.note(kind);
+            words.fail(words.noted, words.place);
         }
 
         private void expect(int kind) {
@@ -1576,7 +1596,7 @@ public final class SchemaPascal {
                     s.type = sound(readType(deeper(depth), ANY, false));
                 }
                 if (isHere(s.name)) {
-                    fail(TOLD_TWICE);
+                    fail(TOLD_BY_TYPE);
                 }
                 tell(s);
                 expect(W_SEMICOLON);
@@ -1642,7 +1662,7 @@ public final class SchemaPascal {
                 fail(TOO_MUCH);
             }
             if (!t.isOrdinal()) {
-                fail(MISFIT);
+                fail(NOT_KNOWN);
             }
             typeAll(schema.names, first, t);
         }
@@ -1670,11 +1690,11 @@ public final class SchemaPascal {
             emit(FIRST_NAME, first);
             Type t = sound(readType(deeper(depth), ANY, true));
             if (t.kind == T_GIVEN && list.size() > MOST_SHARING) {
-                fail(TOO_MUCH);
+                fail(TOO_SHARED);
             }
             for (int i = 0; i < list.size(); i++) {
                 if (isHere(list.get(i).name)) {
-                    fail(TOLD_TWICE);
+                    fail(TOLD_BY_TYPE);
                 }
             }
             if (t.isMadeLate) {
@@ -1880,7 +1900,10 @@ public final class SchemaPascal {
             if (t.tall > MOST_TALL || t.pieces > MOST_PIECES) {
                 fail(TOO_MUCH);
             }
-            if (wanted == ORDINAL && !t.isOrdinal() || wanted == STRUCTURE && t.kind != T_ARRAY && t.kind != T_RECORD) {
+            if (wanted == ORDINAL && !t.isOrdinal()) {
+                fail(NOT_KNOWN);
+            }
+            if (wanted == STRUCTURE && t.kind != T_ARRAY && t.kind != T_RECORD) {
                 fail(MISFIT);
             }
             return t;
@@ -1931,7 +1954,7 @@ public final class SchemaPascal {
             Item x = readSum(depth);
             load(x);
             if (!x.type.isOrdinal() || !isWhole && !x.isKnown) {
-                fail(MISFIT);
+                fail(NOT_KNOWN);
             }
             if (x.isKnown) {
                 workOut(x, begin);
@@ -1948,7 +1971,7 @@ public final class SchemaPascal {
         /** Behind a value or param: a comma where one more must come, a bracket behind the last. */
         private void checkMore(boolean isMore) {
             if (words.kind == (isMore ? W_CLOSE : W_COMMA)) {
-                fail(MISFIT);
+                fail(MISCOUNTED);
             }
             need(isMore ? W_COMMA : W_CLOSE);
         }
@@ -1982,7 +2005,7 @@ public final class SchemaPascal {
             expect(W_DOTS);
             Item high = readOrdinalSum(depth);
             if (low.type.host != high.type.host) {
-                fail(MISFIT);
+                words.note(MISFIT); // what the span is a part of may count before it
             }
             t.host = low.type.host;
             t.low = low.number;
@@ -2020,8 +2043,8 @@ public final class SchemaPascal {
             t.of = of;
             t.tall = of.tall + 1;
             t.hangs = of.hangs;
-            if (t.tall <= MOST_TALL && !of.isOrdinal()) {
-                fail(MISFIT);
+            if (!of.isOrdinal()) {
+                words.note(NOT_KNOWN);
             }
             t.isUnsound = of.isUnsound || !t.hangs && (of.low < 0 || of.high > MOST_MEMBER);
             return wanted(t, wanted);
@@ -2163,7 +2186,7 @@ public final class SchemaPascal {
             expect(W_COLON);
             Type t = readTypeName();
             if (!t.isOrdinal()) {
-                fail(MISFIT);
+                fail(NOT_KNOWN);
             }
             tag.type = t;
             tag.isTag = true;
@@ -2232,7 +2255,7 @@ public final class SchemaPascal {
             load(x);
             if (!x.isText) {
                 if (!x.isKnown || x.hangs || !x.type.isOrdinal()) {
-                    fail(MISFIT);
+                    fail(NOT_KNOWN);
                 }
                 workOut(x, begin);
             }
@@ -2246,7 +2269,7 @@ public final class SchemaPascal {
             Item x = readSum(depth);
             load(x);
             if (!x.isKnown || !x.type.isOrdinal()) {
-                fail(MISFIT);
+                fail(NOT_KNOWN);
             }
             workOut(x, begin);
             code.cut(begin);
@@ -2261,11 +2284,12 @@ public final class SchemaPascal {
             }
             long n = program.workOut(0, x.sum, program.given, 0);
             if (n == NO_NUMBER) {
-                fail(IMPOSSIBLE);
+                words.note(UNWORKABLE); // a type that ends with it may be too much, or no ordinal where one must stand
+            } else {
+                x.number = (int) n;
             }
             program.sums.cut(x.sum);
             x.sum = 0;
-            x.number = (int) n;
         }
 
         // ---- statements
@@ -2587,7 +2611,7 @@ public final class SchemaPascal {
             words.next();
             if (r.params > 0) {
                 if (words.kind != W_OPEN) {
-                    fail(MISFIT);
+                    fail(MISCOUNTED);
                 }
                 int inside = deeper(depth);
                 for (int i = 0; i < r.params && i < r.variables.size(); i++) {
@@ -2639,7 +2663,7 @@ public final class SchemaPascal {
                 return;
             }
             if (words.kind != W_OPEN) {
-                fail(MISFIT);
+                fail(MISCOUNTED);
             }
             int inside = deeper(depth);
             words.next();
@@ -2801,7 +2825,7 @@ public final class SchemaPascal {
         private void signed(Item x, int sign) {
             load(x);
             if (!isOf(x.type, program.integer)) {
-                fail(MISFIT);
+                words.note(MISFIT);
             }
             x.type = program.integer;
             if (sign == W_MINUS) {
@@ -2829,10 +2853,17 @@ public final class SchemaPascal {
                 t = program.text;
             }
             if (op == 0) {
-                fail(MISFIT);
+                return misfit(left, right, place);
             }
             emit(op, place);
             return result(left, right, t, place, op < ALL_OF && op >= ADD);
+        }
+
+        /** Sides that do not fit: read on, as a sum that ends with them may have a step that cannot be. */
+        private Item misfit(Item left, Item right, int place) {
+            words.note(MISFIT);
+            emit(EQUAL, place);
+            return result(left, right, program.bool, place, true);
         }
 
         private static int ofIntegers(int sign) {
@@ -2873,7 +2904,7 @@ public final class SchemaPascal {
                 op = ofEqual(relation);
             }
             if (op == 0) {
-                fail(MISFIT);
+                return misfit(left, right, place);
             }
             emit(op, place);
             return result(left, right, program.bool, place, mayBeKnown);
@@ -2945,7 +2976,7 @@ public final class SchemaPascal {
             Item x = readFactor(inside);
             load(x);
             if (!isOf(x.type, program.bool)) {
-                fail(MISFIT);
+                words.note(MISFIT);
             }
             x.type = program.bool;
             emit(NOT);
@@ -3160,7 +3191,7 @@ public final class SchemaPascal {
             words.next();
             if (params.length() > 0) {
                 if (words.kind != W_OPEN) {
-                    fail(MISFIT);
+                    fail(MISCOUNTED);
                 }
                 int inside = deeper(depth);
                 for (int i = 0; i < params.length(); i++) {

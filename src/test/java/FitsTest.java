@@ -371,5 +371,97 @@ public final class FitsTest {
         b.fault(1, HEAD + " type x = 5..3 `!; begin end.");
         b.fault(5, in("b := i` 5"));
         b.fault(5, in("i := eof`(1)"));
+        noOrdinalThatCannotBe(b);
+        sidesThatCannotBe(b);
+        listsAtTheEnd(b);
+    }
+
+    /** 5 of what is no ordinal counts before 7 of a sum with which the same type ends, this before other 5 and 7. */
+    private static void noOrdinalThatCannotBe(Bench b) {
+        b.fault(5, "program p;type s=set of array[1..2]of 1..1 div 0`;");
+        b.fault(5, HEAD + " type x = set of array [1..2, boolean] of 1..1 div 0`; begin end.");
+        b.fault(5, HEAD + " type x = set of array [1..2] of array [1..2] of 1..maxint + 1`; begin end.");
+        b.fault(5, HEAD + " type x = set of set of 1..1 div 0`; begin end.");
+        b.fault(5, HEAD + " type x = set of array [1..2] of 'a'..1 div 0`; begin end.");
+        b.fault(5, HEAD + " type x = array [array [1..2] of 1..1 div 0`] of char; begin end.");
+        b.fault(5, HEAD + " type x = array [set of 1..1 mod 0`, 1..2] of char; begin end.");
+        b.fault(5, HEAD + " type x = array [1..2, set of 1..chr(256)`] of char; begin end.");
+        b.fault(5, HEAD + " type x = array [1..2] of set of array [1..2] of 1..1 div 0`; begin end.");
+        b.fault(5, HEAD + " type x = record m: set of array [1..2] of 1..1 div 0` end; begin end.");
+        b.fault(5, HEAD + " type x = record m: set of array [1..2] of 1..1 div 0`; case n: small of 1: () end; begin end.");
+        b.fault(5, HEAD + " type x(n: integer) = set of array [1..n] of 1..1 div 0`; begin end.");
+        b.fault(5, HEAD + " type x(n: integer) = array [1..n] of set of array [1..2] of n..1 div 0`; begin end.");
+        b.fault(5, HEAD + " var x: set of array [1..2] of 1..succ(maxint)`; begin end.");
+        b.fault(5, HEAD + " var x, x2: array [1..2] of set of set of 1..pred(false)` value 3; begin end.");
+        b.fault(7, HEAD + " type x = set of 1..1 div 0`; begin end.");
+        b.fault(7, HEAD + " type x = array [1..2] of set of 1..1 div 0`; begin end.");
+        b.fault(7, HEAD + " type x = array [1..2] of 1..1 div 0`; begin end.");
+        b.fault(7, HEAD + " type x = array [1..1 div 0`] of char; begin end.");
+        b.fault(7, HEAD + " type x = array [1..2] of 'a'..1 div 0`; begin end.");
+        b.fault(7, HEAD + " type x(n: integer) = 1..1 div 0`; begin end.");
+        b.fault(7, HEAD + " type x(n: integer) = set of 1..1 div 0`; begin end.");
+        b.fault(7, HEAD + " type x(n: integer) = array [1..n] of n..1 div 0`; begin end.");
+        b.fault(7, HEAD + " type x = record m: 1..1 div 0` end; begin end.");
+        b.fault(7, HEAD + " type x = string(1 div 0`); begin end.");
+        b.fault(7, HEAD + " type x = string(chr(256)`); begin end.");
+        b.fault(7, HEAD + " type x = set of string(1 div 0`); begin end.");
+        b.fault(7, HEAD + " type x = set of vec(1 div 0`); begin end.");
+        b.fault(7, HEAD + " type x = vec(chr(256)`); begin end.");
+        b.fault(7, HEAD + " var x: 1..1 div 0` value 4; begin end.");
+        b.fault(7, HEAD + " type x = 1..1 div 0` 5; begin end.");
+        b.fault(7, HEAD + " type x = 1 div 0`; begin end.");
+        b.fault(1, HEAD + " type x = set of array [1..2] of 1..1 div 0 `!; begin end.");
+        b.fault(5, HEAD + " type x = set of array [1..2] of string(0)`; begin end.");
+        b.fault(5, HEAD + " type x = set of array [1..2] of 5..3`; begin end.");
+        b.fault(5, HEAD + " type x = set of array [1..2] of 1..'a'`; begin end.");
+    }
+
+    /** An operator that does not fit is other 5, behind 7 of the sum that ends at the same word. */
+    private static void sidesThatCannotBe(Bench b) {
+        b.fault(7, HEAD + " const x = true + 1 div 0`; begin end.");
+        b.fault(7, HEAD + " const x = 1 div 0 + true`; begin end.");
+        b.fault(7, HEAD + " const x = 1 div 0 and true`; begin end.");
+        b.fault(7, HEAD + " const x = 1 div 0 = true`; begin end.");
+        b.fault(7, HEAD + " const x = not (1 div 0)`; begin end.");
+        b.fault(7, HEAD + " const x = -chr(256)`; begin end.");
+        b.fault(7, HEAD + " type x = 1..red * (1 mod 0)`; begin end.");
+        b.fault(7, HEAD + " type x = vec(true + 1 div 0`); begin end.");
+        b.fault(7, in("case i of true + 1 div 0`: end"));
+        b.fault(5, HEAD + " type x = set of array [1..2] of 1..true + 1 div 0`; begin end.");
+        b.fault(5, HEAD + " const x = 1 div 0 + true` + 2; begin end.");
+        b.fault(5, HEAD + " const x = 1 div 0 + true` = 2; begin end.");
+        b.fault(5, HEAD + " const x = (1 div 0 + true`) + 2; begin end.");
+        b.fault(5, HEAD + " const x = ord(1 div 0 + true`); begin end.");
+        b.fault(5, HEAD + " const x = i + 1 div 0`; begin end.");
+        b.fault(5, HEAD + " const x = true + i div 0`; begin end.");
+        b.fault(5, HEAD + " const x = 'ab' + 1 div 0`; begin end.");
+        b.fault(5, HEAD + " const x = [1] + 1 div 0`; begin end.");
+        b.fault(5, HEAD + " const x = true + 1`; begin end.");
+        b.fault(5, HEAD + " const x = not 1`; begin end.");
+        b.fault(5, HEAD + " const x = -'ab'`; begin end.");
+        b.fault(5, HEAD + " const x = not 'ab'`; begin end.");
+        b.fault(5, HEAD + " var x: string(3) value -'ab'`; begin end.");
+        b.fault(5, in("i := true + 1 div 0`"));
+        b.fault(5, in("if true + 1` then"));
+        b.fault(5, in("i := true + 1` 5"));
+        b.fault(5, in("case i of -'ab'`: end"));
+        b.fault(5, in("case i of 1 + true`: end"));
+        b.fault(5, in("a1 := -a1`"));
+        b.fault(5, in("i := -a1`"));
+        b.fault(5, in("b := not a1`"));
+        b.fault(5, in("read(i); b := not r1`"));
+    }
+
+    /** A type that tells a name that is just being told is 4 behind all the others, but 5 of what is missing and 2. */
+    private static void listsAtTheEnd(Bench b) {
+        b.fault(4, HEAD + " type x = (x)`; begin end.");
+        b.fault(4, HEAD + " type x = (x)` 5; begin end.");
+        b.fault(4, HEAD + " var x, x2: array [1..2] of (x2, x3)`; begin end.");
+        b.fault(7, HEAD + " type x = array [(x)] of 1..1 div 0`; begin end.");
+        b.fault(7, HEAD + " type x = array [(x)] of 5..3`; begin end.");
+        b.fault(5, HEAD + " type x = array [(x)] of 1..'a'`; begin end.");
+        b.fault(5, HEAD + " type x = array [(x)] of vec`; begin end.");
+        b.fault(5, HEAD + " type x = set of array [(x)] of 1..1 div 0`; begin end.");
+        b.fault(5, HEAD + " type x(n: integer) = (x)`; begin end.");
     }
 }

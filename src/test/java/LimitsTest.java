@@ -192,6 +192,15 @@ public final class LimitsTest {
         b.fault(8, text + "t(n: integer) = record x: t60 end`; begin end.");
         b.good(text + "t(n: integer) = record x: t59 end; u = ^t; begin end.");
         b.good(text + "u = record x: set of boolean end; begin end.");
+        // What is too tall counts before what is no ordinal.
+        b.fault(5, text + "u = set of t59`; begin end.");
+        b.fault(8, text + "u = set of t60`; begin end.");
+        b.fault(5, text + "u = array [1..1] of set of t58`; begin end.");
+        b.fault(8, text + "u = array [1..1] of set of t59`; begin end.");
+        b.fault(8, text + "u = array [1..1] of array [1..1] of set of t58`; begin end.");
+        b.fault(5, text + "u = record x: set of t59`; end; begin end.");
+        b.fault(8, text + "u = array [array [1..1] of set of t59`] of char; begin end.");
+        b.fault(8, text + "t(n: integer) = record x: t55 end; u = array [1..1, 1..1] of set of t(1)`; begin end.");
     }
 
     private static void pieces(Bench b) {
@@ -207,6 +216,9 @@ public final class LimitsTest {
         b.good(more + "v = array [1..1] of u; begin end.");
         b.fault(8, more + "v = array [1..1, 1..1] of u`; begin end.");
         b.fault(8, more + "v = record x: array [1..1] of u end`; begin end.");
+        b.fault(5, more + "v = set of array [1..1] of u`; begin end.");
+        b.fault(8, more + "v = set of array [1..1, 1..1] of u`; begin end.");
+        b.fault(8, more + "v = array [1..1] of set of array [1..1, 1..1] of u`; begin end.");
         b.good("program a; type t = array [1..4000] of char; begin end.");
         String schema = head.replace("u = ", "u(n: boolean) = ") + "y: record " + names(152) + ": char end; z: char end; v = u(true)";
         b.good(schema + "; begin end.");
