@@ -270,7 +270,7 @@ public final class SchemaPascal {
     private static final int TEXT = 60;            // at, length, place
     private static final int TO_TEXT = 61;         // place
     private static final int CONCAT = 62;          // place
-    private static final int COMPARE_TEXT = 63;    // relation, place of a char on the left
+    private static final int COMPARE_TEXT = 63;    // relation
     private static final int LENGTH = 64;
     private static final int FIND = 65;
     private static final int SUBSTR = 66;          // place
@@ -518,6 +518,17 @@ public final class SchemaPascal {
             }
             items[size] = number;
             size++;
+        }
+
+        /** Two numbers between those that are there. */
+        void insert(int at, int a, int b) {
+            add(0);
+            add(0);
+            for (int i = size - 1; i >= at + 2 && i >= 2; i--) {
+                items[i] = items[i - 2];
+            }
+            set(at, a);
+            set(at + 1, b);
         }
 
         int get(int i) {
@@ -2757,6 +2768,14 @@ public final class SchemaPascal {
             }
         }
 
+        /** The same for a left side, as what the right one is was read too late; no jump leads into a sum. */
+        private void asTextBefore(Item x, int rightSide) {
+            if (x.type.isOrdinal()) {
+                code.insert(rightSide, TO_TEXT, x.place);
+                x.type = program.text;
+            }
+        }
+
         private static boolean isRelation(int word) {
             return word >= W_EQUAL && word <= W_GREATER || word >= W_UNEQUAL && word <= W_AT_LEAST || word == W_IN;
         }
@@ -2777,9 +2796,13 @@ public final class SchemaPascal {
             load(left);
             int relation = words.kind;
             int place = words.place;
+            int rightSide = code.size();
             words.next();
             Item right = readSum(depth);
             load(right);
+            if (relation != W_IN && right.type.kind == T_STRING && isTextual(left.type)) {
+                asTextBefore(left, rightSide);
+            }
             return related(left, relation, place, right);
         }
 
@@ -2896,7 +2919,7 @@ public final class SchemaPascal {
                 mayBeKnown = true;
             } else if (isTextual(a) && isTextual(b)) {
                 asText(right);
-                emit(COMPARE_TEXT, ofOrdinals(relation), a.isOrdinal() ? left.place : NONE);
+                emit(COMPARE_TEXT, ofOrdinals(relation));
                 return result(left, right, program.bool, place, false);
             } else if (a.kind == T_SET && isSetOf(b, a.hostOfMembers())) {
                 op = relation == W_AT_MOST ? PART_OF : relation == W_AT_LEAST ? WHOLE_OF : ofEqual(relation);
@@ -4484,25 +4507,13 @@ public final class SchemaPascal {
         }
 
         private void compareTexts() {
-            int place = behind(2);
             int right = (int) pop();
             int left = (int) pop();
             int rightAt = textTop - right;
-            int result;
-            if (place >= 0) {
-                if (!hasRoom(1, place)) {
-                    return;
-                }
-                pushByte(left);
-                textTop--;
-                result = compare(textTop, 1, rightAt, right);
-                left = 0;
-            } else {
-                result = compare(rightAt - left, left, rightAt, right);
-            }
+            int result = compare(rightAt - left, left, rightAt, right);
             textTop = Math.max(rightAt - left, 0);
             push(Program.ofTwo(behind(1), result, 0));
-            at += 3;
+            at += 2;
         }
 
         private int compare(int a, int lengthOfA, int b, int lengthOfB) {

@@ -13,6 +13,7 @@ public final class ErrorsTest {
         others(b);
         room(b);
         texts(b);
+        charsAsTexts(b);
         chain(b);
         b.close();
     }
@@ -254,6 +255,59 @@ public final class ErrorsTest {
         b.error(11, constant.replace("('" + eighty, "(`'" + eighty), times(84, "."));
         String part = "program a; type s = string(80); var r: record u: s end; k: integer; function f(n: integer): s; begin write('.'); f := r.u + (r.u + (r.u + f(n + 1))) end; begin r.u := '" + eighty + "'; k := length(f(1)) end.";
         b.error(11, part.replace("r.u + (r.u", "r.u + (r`.u"), times(84, "."));
+    }
+
+    /** A program that works out a condition while so many bytes wait, 19921 to 20000; u has 69, v 70 bytes. */
+    private static String waiting(int bytes, String condition) {
+        return "program a; type s = string(80); r = record c: char; u: s end; b = boolean; var e, u, v: s; c: char; y: r; z: array [1..2] of char; "
+                + "function one: char; begin one := '1' end; function all: s; begin all := v end; function id(x: char): char; begin id := x end; "
+                + "function f(g, h, i, j, k, l, m, n, o: s; x: b): b; begin f := x end; "
+                + "function w(g, h, i, j, k, l, m: s; x: b): b; begin w := x end; "
+                + "function d(n: integer): b; begin if n = 0 then d := w(e, e, e, e, e, e, '" + times(bytes - 19920, "m") + "', " + condition + ") "
+                + "else d := f(e, e, e, e, e, e, e, e, e, d(n - 1)) end; "
+                + "begin e := '" + times(80, "e") + "'; u := '" + times(69, "u") + "'; v := '" + times(70, "v") + "'; "
+                + "c := 'c'; y.c := c; y.u := v; z[2] := c; write(d(27)) end.";
+    }
+
+    /** A char on the left of a relation stands for a string when the right side is one. */
+    private static void charsAsTexts(Bench b) {
+        String[] relations = {"=", "<>", "<", ">", "<=", ">="};
+        String[] lefts = {"'a'", "c", "y.c", "z[2]", "one", "id(c)", "chr(99)", "succ(c)", "('a')"};
+        for (String r : relations) {
+            String isSo = r.equals("<>") || r.startsWith("<") ? "true" : "false";
+            for (String left : lefts) {
+                b.writes(waiting(19930, left + r + "u"), isSo);
+                b.error(11, waiting(19930, left + r + "`v"), "");
+            }
+            // The other way round the char comes last.
+            b.writes(waiting(19930, "u" + r + "'a'"), r.equals("<>") || r.startsWith(">") ? "true" : "false");
+            b.error(11, waiting(19930, "v" + r + "`'a'"), "");
+            // A char with a char is none of a string.
+            b.writes(waiting(20000, "c" + r + "c"), r.endsWith("=") ? "true" : "false");
+            b.error(11, waiting(20000, "`c" + r + "'ab'"), "");
+            b.error(11, waiting(19999, "c" + r + "`'ab'"), "");
+        }
+        b.error(11, waiting(19930, "c = `'" + times(70, "t") + "'"), "");
+        b.error(11, waiting(19930, "c = y`.u"), "");
+        b.error(11, waiting(19930, "c = all").replace("all := v", "all := `v"), "");
+        b.writes(waiting(19929, "c = all"), "false");
+        b.error(11, waiting(20000, "`id(c) = u"), "");
+        b.error(11, waiting(19930, "c = substr(`v, 1, 1)"), "");
+        b.writes(waiting(19930, "c = substr(u, 1, 1)"), "false");
+        b.error(11, waiting(19930, "c = (`v + 'a')"), "");
+        b.error(11, waiting(19930, "c = u + `'a'"), "");
+        b.error(11, waiting(19930, "c = 'a' + `u"), "");
+        b.writes(waiting(19929, "'v' + u > 'a'"), "true");
+        b.error(11, waiting(19989, "c = 'a' + 'b' + '12345678' + `c"), "");
+        b.writes(waiting(19988, "c < 'd' + 'b' + '12345678' + c"), "true");
+        // It counts in a call on the right side, too, and no more behind the relation.
+        b.error(11, waiting(19998, "c = substr(`'ab', ord(c = 'ab'), 1)"), "");
+        b.error(11, waiting(19997, "c = substr('ab', ord(`c = 'ab'), 1)"), "");
+        b.error(11, waiting(19996, "c = substr('ab', ord(c = `'ab'), 1)"), "");
+        b.writes(waiting(19994, "c = substr('ab', ord(c <> 'ab'), 1)"), "false");
+        b.writes(waiting(19995, "(c > 'ab') and ('a' < 'abc') and (c > 'b') and ('abcd' > 'a') "), "true");
+        b.writes("program a; var c: char; s: string(3); begin c := 'b'; s := 'b'; write(c = s, c < s + 'a', c > 'a' + s, c <= substr(s, 1, 0), c <> 'c', s >= c) end.",
+                "truetruetruefalsetruetrue");
     }
 
     private static String times(int n, String s) {
