@@ -18,6 +18,8 @@ public final class EdgesTest {
         loopsAndCases(b);
         tagsThatWereUndefined(b);
         inputThatIsRead(b);
+        inputThatGoesRound(b);
+        tapeThatIsCut(b);
         ends(b);
         refusedCalls(b);
         manyBytes(b);
@@ -390,6 +392,51 @@ public final class EdgesTest {
         // The variable is worked out before the number is looked at.
         b.error(2, "program a; var v: array [1..2] of integer; begin read(v`[3]) end.", "");
         b.error(4, "program a; var p: ^integer; begin p := nil; read(p`^) end.", "");
+    }
+
+    /** More numbers than the input has room for, some of them read in between: they come in their order. */
+    private static void inputThatGoesRound(Bench b) {
+        SchemaPascal x = b.compiled("program a; var i, n: integer; begin n := 0; while not eof do begin read(i); n := n + 1; if i <> n then n := 1 div 0 end; write(n) end.");
+        x.start();
+        int put = 0;
+        for (int turn = 0; turn < 5; turn++) {
+            while (x.told(9) < 1000) {
+                put++;
+                x.input(put);
+            }
+            b.thrown("full", UnsupportedOperationException.class, () -> x.input(0));
+            b.due("goes on", x.step(turn == 0 ? 1 + 1 + 4 * 700 : 4 * 700), 0);
+            b.due("700 were read", x.told(9), 300);
+        }
+        b.due("to the end", x.step(20000), 1);
+        b.due("all came in their order", Bench.written(x), Integer.toString(put));
+        b.due("none is left", x.told(9), 0);
+        b.due("one more", x.input(9), 1);
+        x.start();
+        b.due("it is not what is due now", x.step(20), 2);
+        b.due("but it was read", x.value(0, 0, 0), 9);
+    }
+
+    private static void tapeThatIsCut(Bench b) {
+        SchemaPascal x = new SchemaPascal();
+        Bench.feed(x, "program a; begin write(1) end! and more");
+        x.end("program a; begin write(1) end".length());
+        Bench.feed(x, ".");
+        b.due("bytes", x.told(11), 30);
+        b.due("what is behind the end is gone", x.compile(), 0);
+        Bench.feed(x, "program a; begin write(1) end.");
+        x.end(30);
+        b.due("its own length is no cut", x.compile(), 0);
+        Bench.feed(x, "program a; begin write(1) end.");
+        x.end(29);
+        b.due("a byte less", x.compile(), -1 - 29);
+        x.end(0);
+        b.due("nothing", x.compile(), -1);
+        b.due("2 at the tape's length", x.fault(), 2);
+        x.feed(0x70726f67, 0x72616d20, 0x613b2062, 0x6567696e, 0x20656e64);
+        x.feed(0x2e000000, 0, 0, 0, 0);
+        b.due("bytes of 0 are no blanks", x.compile(), -1 - 21);
+        b.due("no word", x.fault(), 1);
     }
 
     private static void ends(Bench b) {

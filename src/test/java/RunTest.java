@@ -8,6 +8,7 @@ public final class RunTest {
         statements(b);
         loops(b);
         routines(b);
+        orders(b);
         records(b);
         schemata(b);
         pointers(b);
@@ -80,6 +81,30 @@ public final class RunTest {
         b.writes("program a; function f: integer; begin f := 1; f := 2 end; procedure p; begin end; begin p; write(f) end.", "2");
         b.writes("program a; var i: integer; function f(x: integer): integer; begin i := i + 1; f := i * 10 + x end; begin i := 0; write(f(1) + f(2) * f(3)) end.", "737");
         b.writes("program a; procedure p(n: integer); var v: integer; begin v := n; if n > 0 then p(n - 1); write(v) end; begin p(3) end.", "0123");
+    }
+
+    /** What is worked out before what. */
+    private static void orders(Bench b) {
+        b.error(7, "program a; begin write(1); write(true or (1 `div 0 = 1)) end.", "1");
+        b.error(7, "program a; begin write(1); write(false and (1 `div 0 = 1)) end.", "1");
+        b.error(2, "program a; var v: array [1..2] of integer; begin v`[3] := 1 div 0 end.", "");
+        b.error(7, "program a; var v: 1..2; begin v := 3 + 1 `div 0 end.", "");
+        b.error(7, "program a; procedure p(x: integer; var y: integer); begin end; var v: array [1..2] of integer; begin p(1 `div 0, v[3]) end.", "");
+        b.error(2, "program a; procedure p(var y: integer; x: integer); begin end; var v: array [1..2] of integer; begin p(v`[3], 1 div 0) end.", "");
+        b.error(7, "program a; type d = 1..2; procedure p(x: d; y: integer); begin end; begin p(3, 1 `div 0) end.", "");
+        b.error(7, "program a; begin write(card([1 `div 0, 64])) end.", "");
+        b.error(2, "program a; begin write(card([`64, 1 div 0])) end.", "");
+        b.error(7, "program a; begin write(card([64..1 `div 0])) end.", "");
+        b.error(7, "program a; var i: 1..2; begin for i := 3 to 1 `div 0 do end.", "");
+        String both = "program a; type r = array [1..2] of integer; var v: r; i: integer; function f: integer; begin v[1] := v[1] + 1; i := i + 1; f := 7 end; ";
+        // Arrays are copied when all sums were worked out; numbers are taken at once; a var param stays with its element.
+        b.writes(both + "procedure p(a: r; b, c: integer; var d: integer); begin d := 9; write(a[1], b, c, i) end; begin v[1] := 3; v[2] := 0; i := 1; p(v, v[1], f, v[i]); write(v[1], v[2]) end.", "437249");
+        b.writes(both + "procedure p(var d: integer; c: integer); begin d := 9; write(c, i) end; begin v[1] := 3; v[2] := 0; i := 1; p(v[i], f); write(v[1], v[2]) end.", "7290");
+        b.writes(both + "begin v[1] := 3; v[2] := 0; i := 1; v[i] := f; write(v[1], v[2], i) end.", "702");
+        b.writes(both + "begin v[1] := 3; v[2] := 0; i := 1; write(v[1], f, v[1], i) end.", "3742");
+        b.writes(both + "procedure p(var d: r); begin v[1] := 5; write(d[1]); d[1] := 6; write(v[1]) end; begin p(v) end.", "56");
+        // What is no more keeps its cells for what stands for it.
+        b.writes("program a; type r = record x: integer end; var p: ^r; begin new(p); with p^ do begin x := 1; dispose(p); x := 2; write(x) end end.", "2");
     }
 
     private static void records(Bench b) {
