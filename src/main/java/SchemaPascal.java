@@ -2814,6 +2814,7 @@ public final class SchemaPascal {
             Item sum = readFactor(depth);
             int adding = 0;
             int addingPlace = 0;
+            int rightSide = 0;
             Item whole = sum;
             for (int i = 0; i < MANY; i++) {
                 for (int j = 0; j < MANY && isTiming(words.kind); j++) {
@@ -2821,10 +2822,10 @@ public final class SchemaPascal {
                     int timing = words.kind;
                     int place = words.place;
                     words.next();
-                    sum = joined(sum, timing, place, readFactor(depth));
+                    sum = joined(sum, timing, place, readFactor(depth), 0);
                 }
                 if (adding != 0) {
-                    sum = joined(whole, adding, addingPlace, sum);
+                    sum = joined(whole, adding, addingPlace, sum, rightSide);
                 } else if (sign == W_PLUS || sign == W_MINUS) {
                     signed(sum, sign);
                 }
@@ -2835,10 +2836,7 @@ public final class SchemaPascal {
                 adding = words.kind;
                 addingPlace = words.place;
                 load(whole);
-                if (adding == W_PLUS && isOf(whole.type, program.character)) {
-                    asText(whole);
-                    whole.isKnown = false;
-                }
+                rightSide = code.size();
                 words.next();
                 sum = readFactor(depth);
             }
@@ -2856,8 +2854,8 @@ public final class SchemaPascal {
             }
         }
 
-        /** What two factors or terms come to; the word behind the second one stands here. */
-        private Item joined(Item left, int sign, int place, Item right) {
+        /** What two factors or terms come to; the word behind the second one stands here, its code begins at rightSide. */
+        private Item joined(Item left, int sign, int place, Item right, int rightSide) {
             load(right);
             Type t = null;
             int op = 0;
@@ -2870,7 +2868,8 @@ public final class SchemaPascal {
             } else if (left.type.kind == T_SET && isSetOf(right.type, left.type.hostOfMembers())) {
                 op = sign == W_PLUS ? ALL_OF : sign == W_MINUS ? LESS_OF : sign == W_TIMES ? COMMON_OF : 0;
                 t = left.type == program.emptySet ? right.type : left.type;
-            } else if (left.type.kind == T_STRING && isTextual(right.type) && sign == W_PLUS) {
+            } else if (sign == W_PLUS && isTextual(left.type) && isTextual(right.type)) {
+                asTextBefore(left, rightSide);
                 asText(right);
                 op = CONCAT;
                 t = program.text;

@@ -427,7 +427,18 @@ public final class FitsTest {
         b.fault(7, HEAD + " type x = 1..red * (1 mod 0)`; begin end.");
         b.fault(7, HEAD + " type x = vec(true + 1 div 0`); begin end.");
         b.fault(7, in("case i of true + 1 div 0`: end"));
+        b.fault(7, HEAD + " const x = 'a' + 1 div 0`; begin end.");
+        b.fault(7, HEAD + " const x = 'a' - 1 div 0`; begin end.");
+        b.fault(7, HEAD + " const x = chr(7) + pred(-maxint)`; begin end.");
+        b.fault(7, HEAD + " const x = 1 + chr(256)`; begin end.");
+        b.fault(7, HEAD + " type x = 1..'a' + (1 mod 0)`; begin end.");
+        b.fault(7, in("case i of 'a' + 1 div 0`: end"));
         b.fault(5, HEAD + " type x = set of array [1..2] of 1..true + 1 div 0`; begin end.");
+        b.fault(5, HEAD + " type x = set of array [1..2] of 1..'a' + 1 div 0`; begin end.");
+        b.fault(5, HEAD + " const x = 'a' + 1`; begin end.");
+        b.fault(5, HEAD + " const x = 'a' + i div 0`; begin end.");
+        b.fault(5, HEAD + " const x = 'a' + 'b'`; begin end.");
+        b.fault(5, HEAD + " const x = 'a' + 1 div 0` + 2; begin end.");
         b.fault(5, HEAD + " const x = 1 div 0 + true` + 2; begin end.");
         b.fault(5, HEAD + " const x = 1 div 0 + true` = 2; begin end.");
         b.fault(5, HEAD + " const x = (1 div 0 + true`) + 2; begin end.");
